@@ -197,6 +197,7 @@ public final class WireSlave {
         return to != EVERYONE && to != address;
     }
 
+    /** The shortest frame is one without data. */
     private int dataSize() {
         return frame.size() - SHORTEST_FRAME;
     }
