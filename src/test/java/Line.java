@@ -41,6 +41,24 @@ final class Line {
         }
     }
 
+    static int high(int n) {
+        return n >> 8;
+    }
+
+    static int low(int n) {
+        return n & 255;
+    }
+
+    /** A request to slave 9 without its check sum: two numbers, and what stands behind them. */
+    static int[] request(int function, int a, int n, int... more) {
+        return join(new int[] {9, function, high(a), low(a), high(n), low(n)}, more);
+    }
+
+    /** A request to slave 9 that writes many places: the fifth of its data tells how many bytes there are. */
+    static int[] writing(int function, int a, int n, int... bytes) {
+        return request(function, a, n, join(new int[] {bytes.length}, bytes));
+    }
+
     static int[] withSum(int... body) {
         int sum = sumOf(body);
         return join(body, sum & 255, sum >> 8);

@@ -18,61 +18,30 @@ public final class RequestTest {
         check.finish();
     }
 
-    private static int high(int n) {
-        return n >> 8;
-    }
-
-    private static int low(int n) {
-        return n & 255;
-    }
-
-    private static int[] request(int function, int a, int n, int... more) {
-        return Line.join(new int[] {9, function, high(a), low(a), high(n), low(n)}, more);
-    }
-
-    private static void dueRefusal(Check check, int number, int... request) {
-        Line line = new Line(9);
-        line.send(request);
-        String what = "refusal of " + java.util.Arrays.toString(java.util.Arrays.copyOf(request, Math.min(8, request.length)));
-        check.dueReply(what, line, 9, request[1] | 128, number);
-        check.due(what + ": count(3)", line.slave().count(3), 1);
-        check.due(what + ": count(4)", line.slave().count(4), 0);
-    }
-
-    private static void dueDone(Check check, int size, int... request) {
-        Line line = new Line(9);
-        line.send(request);
-        String what = "done " + java.util.Arrays.toString(java.util.Arrays.copyOf(request, Math.min(8, request.length)));
-        check.due(what, line.answered(), size);
-        check.due(what + ": reply(1)", line.slave().reply(1), request[1]);
-        check.due(what + ": count(3)", line.slave().count(3), 0);
-        check.due(what + ": count(4)", line.slave().count(4), 1);
-    }
-
     /** The examples of the published description of each function, the places brought into the tables. */
     private static void publishedExamples(Check check) {
         Line line = new Line(9);
-        line.send(request(15, 0x13, 0x13, 3, 0xCD, 0x6B, 0x05));
+        line.send(Line.request(15, 0x13, 0x13, 3, 0xCD, 0x6B, 0x05));
         check.dueReply("write 19 coils", line, 9, 15, 0, 0x13, 0, 0x13);
-        line.send(request(1, 0x13, 0x13));
+        line.send(Line.request(1, 0x13, 0x13));
         check.dueReply("read 19 coils", line, 9, 1, 3, 0xCD, 0x6B, 0x05);
         int[] bits = {0xAC, 0xDB, 0x35};
         for (int i = 0; i < 22; i++) {
             line.slave().set(1, 0xC4 + i, bits[i / 8] >> i % 8 & 1);
         }
-        line.send(request(2, 0xC4, 0x16));
+        line.send(Line.request(2, 0xC4, 0x16));
         check.dueReply("read 22 switches", line, 9, 2, 3, 0xAC, 0xDB, 0x35);
-        line.send(request(16, 1, 2, 4, 0x00, 0x0A, 0x01, 0x02));
+        line.send(Line.request(16, 1, 2, 4, 0x00, 0x0A, 0x01, 0x02));
         check.dueReply("write 2 registers", line, 9, 16, 0, 1, 0, 2);
-        line.send(request(3, 0, 3));
+        line.send(Line.request(3, 0, 3));
         check.dueReply("read 3 registers", line, 9, 3, 6, 0, 0, 0, 0x0A, 1, 2);
         line.slave().set(3, 8, 0x0A);
-        line.send(request(4, 8, 1));
+        line.send(Line.request(4, 8, 1));
         check.dueReply("read a meter", line, 9, 4, 2, 0, 0x0A);
-        line.send(request(5, 0xAC, 0xFF00));
+        line.send(Line.request(5, 0xAC, 0xFF00));
         check.dueReply("write a coil", line, 9, 5, 0, 0xAC, 0xFF, 0);
         check.due("get(0, 0xAC)", line.slave().get(0, 0xAC), 1);
-        line.send(request(6, 1, 3));
+        line.send(Line.request(6, 1, 3));
         check.dueReply("write a register", line, 9, 6, 0, 1, 0, 3);
         check.due("get(2, 1)", line.slave().get(2, 1), 3);
     }
@@ -85,9 +54,9 @@ public final class RequestTest {
     private static void unknownFunctions(Check check) {
         for (int function = 0; function < 256; function++) {
             if (!isKnown(function)) {
-                dueRefusal(check, 1, 9, function);
-                dueRefusal(check, 1, request(function, 0, 1));
-                dueRefusal(check, 1, request(function, 999, 0, 7, 7));
+                check.dueRefusal(1, 9, function);
+                check.dueRefusal(1, Line.request(function, 0, 1));
+                check.dueRefusal(1, Line.request(function, 999, 0, 7, 7));
             }
         }
     }
@@ -97,9 +66,9 @@ public final class RequestTest {
             for (int size = 0; size < 12; size++) {
                 int[] request = java.util.Arrays.copyOf(new int[] {9, function, 0, 0, 0, function == 5 ? 0 : 1}, 2 + size);
                 if (size == 4) {
-                    dueDone(check, function < 3 ? 6 : function < 5 ? 7 : 8, request);
+                    check.dueDone(function < 3 ? 6 : function < 5 ? 7 : 8, request);
                 } else {
-                    dueRefusal(check, 3, request);
+                    check.dueRefusal(3, request);
                 }
             }
         }
@@ -108,22 +77,22 @@ public final class RequestTest {
             for (int size = 0; size < 12; size++) {
                 int[] request = java.util.Arrays.copyOf(new int[] {9, function, 0, 0, 0, 1, due}, 2 + size);
                 if (size == 5 + due) {
-                    dueDone(check, 8, request);
+                    check.dueDone(8, request);
                 } else {
-                    dueRefusal(check, 3, request);
+                    check.dueRefusal(3, request);
                 }
             }
         }
-        dueRefusal(check, 3, request(15, 0, 0, 0));
-        dueRefusal(check, 3, request(16, 0, 0, 0));
-        dueRefusal(check, 3, request(15, 0, 1, 2, 1, 1));
-        dueRefusal(check, 3, request(15, 0, 9, 1, 1));
-        dueRefusal(check, 3, request(16, 0, 1, 1, 1));
-        dueRefusal(check, 3, request(16, 0, 1, 3, 1, 1, 1));
-        dueRefusal(check, 3, request(16, 0, 1, 4, 1, 1, 1, 1));
+        check.dueRefusal(3, Line.request(15, 0, 0, 0));
+        check.dueRefusal(3, Line.request(16, 0, 0, 0));
+        check.dueRefusal(3, Line.request(15, 0, 1, 2, 1, 1));
+        check.dueRefusal(3, Line.request(15, 0, 9, 1, 1));
+        check.dueRefusal(3, Line.request(16, 0, 1, 1, 1));
+        check.dueRefusal(3, Line.request(16, 0, 1, 3, 1, 1, 1));
+        check.dueRefusal(3, Line.request(16, 0, 1, 4, 1, 1, 1, 1));
         // A wrong size and a place that is not there: the size comes first.
-        dueRefusal(check, 3, 9, 3, 255, 255, 0);
-        dueRefusal(check, 3, request(16, 999, 1, 2, 1));
+        check.dueRefusal(3, 9, 3, 255, 255, 0);
+        check.dueRefusal(3, Line.request(16, 999, 1, 2, 1));
     }
 
     /** A wrong amount is refused before a wrong place; a right one that is too much is a wrong place. */
@@ -132,24 +101,24 @@ public final class RequestTest {
             int most = function < 3 ? 2000 : 125;
             int places = function < 3 ? 256 : 64;
             for (int a : new int[] {0, 65535}) {
-                dueRefusal(check, 3, request(function, a, 0));
-                dueRefusal(check, 3, request(function, a, most + 1));
-                dueRefusal(check, 3, request(function, a, 32768));
-                dueRefusal(check, 3, request(function, a, 65535));
-                dueRefusal(check, 2, request(function, a, most));
-                dueRefusal(check, 2, request(function, a, places + 1));
+                check.dueRefusal(3, Line.request(function, a, 0));
+                check.dueRefusal(3, Line.request(function, a, most + 1));
+                check.dueRefusal(3, Line.request(function, a, 32768));
+                check.dueRefusal(3, Line.request(function, a, 65535));
+                check.dueRefusal(2, Line.request(function, a, most));
+                check.dueRefusal(2, Line.request(function, a, places + 1));
             }
-            dueDone(check, function < 3 ? 6 : 7, request(function, 0, 1));
-            dueDone(check, function < 3 ? 37 : 133, request(function, 0, places));
+            check.dueDone(function < 3 ? 6 : 7, Line.request(function, 0, 1));
+            check.dueDone(function < 3 ? 37 : 133, Line.request(function, 0, places));
         }
         for (int n : new int[] {1, 255, 256, 65279, 65281, 65535, 32768, 254 * 256}) {
-            dueRefusal(check, 3, request(5, 0, n));
-            dueRefusal(check, 3, request(5, 256, n));
+            check.dueRefusal(3, Line.request(5, 0, n));
+            check.dueRefusal(3, Line.request(5, 256, n));
         }
         for (int n : new int[] {0, 1, 255, 256, 32768, 65280, 65535}) {
             Line line = new Line(9);
-            line.send(request(6, 63, n));
-            check.dueReply("6 with " + n, line, 9, 6, 0, 63, high(n), low(n));
+            line.send(Line.request(6, 63, n));
+            check.dueReply("6 with " + n, line, 9, 6, 0, 63, Line.high(n), Line.low(n));
             check.due("get(2, 63)", line.slave().get(2, 63), n);
         }
     }
@@ -157,66 +126,66 @@ public final class RequestTest {
     private static void amountsOfManyCoils(Check check) {
         for (int n = 1; n <= 256; n++) {
             int due = (n + 7) / 8;
-            dueDone(check, 8, request(15, 0, n, Line.join(new int[] {due}, Line.many(due, 255))));
-            dueRefusal(check, 3, request(15, 0, n, Line.join(new int[] {due + 1}, Line.many(due + 1, 255))));
+            check.dueDone(8, Line.request(15, 0, n, Line.join(new int[] {due}, Line.many(due, 255))));
+            check.dueRefusal(3, Line.request(15, 0, n, Line.join(new int[] {due + 1}, Line.many(due + 1, 255))));
             if (due > 1) {
-                dueRefusal(check, 3, request(15, 0, n, Line.join(new int[] {due - 1}, Line.many(due - 1, 255))));
+                check.dueRefusal(3, Line.request(15, 0, n, Line.join(new int[] {due - 1}, Line.many(due - 1, 255))));
             }
         }
-        dueRefusal(check, 2, request(15, 0, 257, Line.join(new int[] {33}, Line.many(33, 255))));
-        dueRefusal(check, 2, request(15, 0, 1968, Line.join(new int[] {246}, Line.many(246, 255))));
-        dueRefusal(check, 3, request(15, 0, 1969, Line.join(new int[] {247}, Line.many(247, 255))));
-        dueRefusal(check, 3, request(15, 0, 0, Line.join(new int[] {1}, Line.many(1, 255))));
+        check.dueRefusal(2, Line.request(15, 0, 257, Line.join(new int[] {33}, Line.many(33, 255))));
+        check.dueRefusal(2, Line.request(15, 0, 1968, Line.join(new int[] {246}, Line.many(246, 255))));
+        check.dueRefusal(3, Line.request(15, 0, 1969, Line.join(new int[] {247}, Line.many(247, 255))));
+        check.dueRefusal(3, Line.request(15, 0, 0, Line.join(new int[] {1}, Line.many(1, 255))));
         // n + 7 over 8 comes round to the byte's own number only below 256 bytes.
-        dueRefusal(check, 3, request(15, 0, 2056, Line.join(new int[] {1}, Line.many(1, 255))));
-        dueRefusal(check, 3, request(15, 256, 1969, Line.join(new int[] {247}, Line.many(247, 255))));
+        check.dueRefusal(3, Line.request(15, 0, 2056, Line.join(new int[] {1}, Line.many(1, 255))));
+        check.dueRefusal(3, Line.request(15, 256, 1969, Line.join(new int[] {247}, Line.many(247, 255))));
     }
 
     private static void amountsOfManyRegisters(Check check) {
         for (int n = 1; n <= 64; n++) {
-            dueDone(check, 8, request(16, 0, n, Line.join(new int[] {2 * n}, Line.many(2 * n, 255))));
-            dueRefusal(check, 3, request(16, 0, n, Line.join(new int[] {2 * n + 1}, Line.many(2 * n + 1, 255))));
-            dueRefusal(check, 3, request(16, 0, n, Line.join(new int[] {2 * n - 1}, Line.many(2 * n - 1, 255))));
-            dueRefusal(check, 3, request(16, 0, n, Line.join(new int[] {n}, Line.many(n, 255))));
+            check.dueDone(8, Line.request(16, 0, n, Line.join(new int[] {2 * n}, Line.many(2 * n, 255))));
+            check.dueRefusal(3, Line.request(16, 0, n, Line.join(new int[] {2 * n + 1}, Line.many(2 * n + 1, 255))));
+            check.dueRefusal(3, Line.request(16, 0, n, Line.join(new int[] {2 * n - 1}, Line.many(2 * n - 1, 255))));
+            check.dueRefusal(3, Line.request(16, 0, n, Line.join(new int[] {n}, Line.many(n, 255))));
         }
-        dueRefusal(check, 2, request(16, 0, 65, Line.join(new int[] {130}, Line.many(130, 255))));
-        dueRefusal(check, 2, request(16, 0, 123, Line.join(new int[] {246}, Line.many(246, 255))));
+        check.dueRefusal(2, Line.request(16, 0, 65, Line.join(new int[] {130}, Line.many(130, 255))));
+        check.dueRefusal(2, Line.request(16, 0, 123, Line.join(new int[] {246}, Line.many(246, 255))));
         // The longest data that a frame can have: 124 numbers would fill 253 bytes, one too many.
-        dueRefusal(check, 3, request(16, 0, 124, Line.join(new int[] {247}, Line.many(247, 255))));
-        dueRefusal(check, 3, request(16, 0, 0, Line.join(new int[] {2}, Line.many(2, 255))));
-        dueRefusal(check, 3, request(16, 0, 129, Line.join(new int[] {2}, Line.many(2, 255))));
+        check.dueRefusal(3, Line.request(16, 0, 124, Line.join(new int[] {247}, Line.many(247, 255))));
+        check.dueRefusal(3, Line.request(16, 0, 0, Line.join(new int[] {2}, Line.many(2, 255))));
+        check.dueRefusal(3, Line.request(16, 0, 129, Line.join(new int[] {2}, Line.many(2, 255))));
     }
 
     private static void places(Check check) {
         for (int function : new int[] {1, 2, 3, 4}) {
             int places = function < 3 ? 256 : 64;
             int size = function < 3 ? 6 : 7;
-            dueDone(check, size, request(function, places - 1, 1));
-            dueRefusal(check, 2, request(function, places, 1));
-            dueRefusal(check, 2, request(function, places - 1, 2));
-            dueRefusal(check, 2, request(function, 65535, 1));
-            dueRefusal(check, 2, request(function, 1, places));
-            dueRefusal(check, 2, request(function, 65535, 2));
-            dueRefusal(check, 2, request(function, 256, 1));
-            dueRefusal(check, 2, request(function, 32768, 1));
+            check.dueDone(size, Line.request(function, places - 1, 1));
+            check.dueRefusal(2, Line.request(function, places, 1));
+            check.dueRefusal(2, Line.request(function, places - 1, 2));
+            check.dueRefusal(2, Line.request(function, 65535, 1));
+            check.dueRefusal(2, Line.request(function, 1, places));
+            check.dueRefusal(2, Line.request(function, 65535, 2));
+            check.dueRefusal(2, Line.request(function, 256, 1));
+            check.dueRefusal(2, Line.request(function, 32768, 1));
         }
-        dueDone(check, 8, request(5, 255, 65280));
-        dueRefusal(check, 2, request(5, 256, 65280));
-        dueRefusal(check, 2, request(5, 256, 0));
-        dueRefusal(check, 2, request(5, 65535, 0));
-        dueDone(check, 8, request(6, 63, 65535));
-        dueRefusal(check, 2, request(6, 64, 1));
-        dueRefusal(check, 2, request(6, 255, 1));
-        dueRefusal(check, 2, request(6, 65535, 1));
-        dueDone(check, 8, request(15, 255, 1, 1, 1));
-        dueDone(check, 8, request(15, 248, 8, 1, 255));
-        dueRefusal(check, 2, request(15, 255, 2, 1, 3));
-        dueRefusal(check, 2, request(15, 256, 1, 1, 1));
-        dueRefusal(check, 2, request(15, 65535, 1, 1, 1));
-        dueDone(check, 8, request(16, 63, 1, 2, 1, 1));
-        dueRefusal(check, 2, request(16, 63, 2, 4, 1, 1, 1, 1));
-        dueRefusal(check, 2, request(16, 64, 1, 2, 1, 1));
-        dueRefusal(check, 2, request(16, 65535, 1, 2, 1, 1));
+        check.dueDone(8, Line.request(5, 255, 65280));
+        check.dueRefusal(2, Line.request(5, 256, 65280));
+        check.dueRefusal(2, Line.request(5, 256, 0));
+        check.dueRefusal(2, Line.request(5, 65535, 0));
+        check.dueDone(8, Line.request(6, 63, 65535));
+        check.dueRefusal(2, Line.request(6, 64, 1));
+        check.dueRefusal(2, Line.request(6, 255, 1));
+        check.dueRefusal(2, Line.request(6, 65535, 1));
+        check.dueDone(8, Line.request(15, 255, 1, 1, 1));
+        check.dueDone(8, Line.request(15, 248, 8, 1, 255));
+        check.dueRefusal(2, Line.request(15, 255, 2, 1, 3));
+        check.dueRefusal(2, Line.request(15, 256, 1, 1, 1));
+        check.dueRefusal(2, Line.request(15, 65535, 1, 1, 1));
+        check.dueDone(8, Line.request(16, 63, 1, 2, 1, 1));
+        check.dueRefusal(2, Line.request(16, 63, 2, 4, 1, 1, 1, 1));
+        check.dueRefusal(2, Line.request(16, 64, 1, 2, 1, 1));
+        check.dueRefusal(2, Line.request(16, 65535, 1, 2, 1, 1));
     }
 
     /** The bits that are left of the last byte are 0, though the places behind it are 1. */
@@ -231,7 +200,7 @@ public final class RequestTest {
                 for (int i = 0; i < n; i++) {
                     want[i / 8] |= (i % 5 == 3 ? 0 : 1) << i % 8;
                 }
-                line.send(request(function, 100, n));
+                line.send(Line.request(function, 100, n));
                 check.dueReply("read " + n + " bits", line, Line.join(new int[] {9, function, want.length}, want));
             }
         }
@@ -244,12 +213,12 @@ public final class RequestTest {
             for (int i = 0; i < 64; i++) {
                 int v = 65535 - 997 * i;
                 line.slave().set(function - 1, i, v);
-                want[2 * i] = high(v);
-                want[2 * i + 1] = low(v);
+                want[2 * i] = Line.high(v);
+                want[2 * i + 1] = Line.low(v);
             }
-            line.send(request(function, 0, 64));
+            line.send(Line.request(function, 0, 64));
             check.dueReply("read all by " + function, line, Line.join(new int[] {9, function, 128}, want));
-            line.send(request(function, 62, 2));
+            line.send(Line.request(function, 62, 2));
             check.dueReply("read the last two by " + function, line,
                     9, function, 4, want[124], want[125], want[126], want[127]);
         }
@@ -265,7 +234,7 @@ public final class RequestTest {
                 }
                 int bytes = (n + 7) / 8;
                 int[] written = {0b10110010, 0b01011101, 0b11100110};
-                line.send(request(15, 10, n, Line.join(new int[] {bytes}, java.util.Arrays.copyOf(written, bytes))));
+                line.send(Line.request(15, 10, n, Line.join(new int[] {bytes}, java.util.Arrays.copyOf(written, bytes))));
                 check.dueReply("write " + n + " coils", line, 9, 15, 0, 10, 0, n);
                 for (int i = 0; i < 40; i++) {
                     int k = i - 10;
@@ -276,11 +245,11 @@ public final class RequestTest {
             }
         }
         Line line = new Line(9);
-        line.send(request(5, 7, 65280));
+        line.send(Line.request(5, 7, 65280));
         check.due("5 sets: get(0, 7)", line.slave().get(0, 7), 1);
         check.due("5 sets: get(0, 6)", line.slave().get(0, 6), 0);
         check.due("5 sets: get(1, 7)", line.slave().get(1, 7), 0);
-        line.send(request(5, 7, 0));
+        line.send(Line.request(5, 7, 0));
         check.dueReply("5 clears", line, 9, 5, 0, 7, 0, 0);
         check.due("5 clears: get(0, 7)", line.slave().get(0, 7), 0);
     }
@@ -291,13 +260,13 @@ public final class RequestTest {
         for (int i = 0; i < 128; i++) {
             bytes[i] = 255 - i;
         }
-        line.send(request(16, 0, 64, Line.join(new int[] {128}, bytes)));
+        line.send(Line.request(16, 0, 64, Line.join(new int[] {128}, bytes)));
         check.dueReply("write all registers", line, 9, 16, 0, 0, 0, 64);
         for (int i = 0; i < 64; i++) {
             check.due("get(2, " + i + ")", line.slave().get(2, i), bytes[2 * i] * 256 + bytes[2 * i + 1]);
             check.due("get(3, " + i + ")", line.slave().get(3, i), 0);
         }
-        line.send(request(16, 30, 2, 4, 0, 1, 2, 3));
+        line.send(Line.request(16, 30, 2, 4, 0, 1, 2, 3));
         check.due("get(2, 29)", line.slave().get(2, 29), bytes[58] * 256 + bytes[59]);
         check.due("get(2, 30)", line.slave().get(2, 30), 1);
         check.due("get(2, 31)", line.slave().get(2, 31), 515);
@@ -306,11 +275,11 @@ public final class RequestTest {
 
     private static void refusedWritesDoNothing(Check check) {
         Line line = new Line(9);
-        line.send(request(15, 254, 3, 1, 7));
-        line.send(request(15, 250, 2, 2, 3, 3));
-        line.send(request(16, 63, 2, 4, 1, 1, 1, 1));
-        line.send(request(5, 250, 1));
-        line.send(request(6, 63, 1, 1));
+        line.send(Line.request(15, 254, 3, 1, 7));
+        line.send(Line.request(15, 250, 2, 2, 3, 3));
+        line.send(Line.request(16, 63, 2, 4, 1, 1, 1, 1));
+        line.send(Line.request(5, 250, 1));
+        line.send(Line.request(6, 63, 1, 1));
         check.due("count(3)", line.slave().count(3), 5);
         for (int i = 248; i < 256; i++) {
             check.due("get(0, " + i + ")", line.slave().get(0, i), 0);
